@@ -539,7 +539,7 @@ public final class TwoRumours {
 
     private void readFigures() {
       value = 0;
-      while (behind < length && isFigure(behind)) {
+      while (behind < length && signs[behind] >= '0' && signs[behind] <= '9') {
         if (behind - first < MOST_FIGURES) {
           value = value * 10 + (signs[behind] - '0');
         }
@@ -1235,8 +1235,11 @@ public final class TwoRumours {
     }
 
     private void prepare() {
+      if (ready) {
+        return;
+      }
       int size = size();
-      for (int set = 0; set < 1 << size && !ready; set++) {
+      for (int set = 0; set < 1 << size; set++) {
         for (int p = 0; p < size; p++) {
           stays[set * NET_PERSONS + p] = stayOf(set, p, size);
         }

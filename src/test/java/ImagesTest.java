@@ -6,6 +6,7 @@ public final class ImagesTest {
   public static void main(String[] args) {
     seeds();
     images();
+    waysAndBeginnings();
     notKept();
     Check.end();
   }
@@ -77,6 +78,29 @@ public final class ImagesTest {
     x.go(5);
     x.goBack(0);
     Check.due("kept anew", all(x).equals(third) ? 1 : 0, 1);
+  }
+
+  /** What came behind the keeping uses the same rows otherwise: none of it may show again. */
+  private static void waysAndBeginnings() {
+    TwoRumours x = Check.with("person 100;person 0;person 0;tie 0 1 1;", SAYINGS);
+    x.begin(0, 0);
+    x.begin(1, 1);
+    x.go(3);
+    x.begin(2, 0);
+    x.keep(1);
+    String kept = all(x);
+    Check.due("by a join", x.way(0, 2, -1), 3);
+    x.fresh();
+    x.begin(1, 2);
+    x.go(1);
+    x.begin(0, 1);
+    x.begin(2, 1);
+    Check.due("of its own", x.way(0, 2, -1), 2);
+    x.goBack(1);
+    Check.due("by a join again", x.way(0, 2, -1), 3);
+    Check.due("all as kept", all(x).equals(kept) ? 1 : 0, 1);
+    Check.due("what began at 0", x.curve(1, 0, 2), 1);
+    Check.due("what began at 3", x.curve(1, 0, 3), 2);
   }
 
   private static void notKept() {

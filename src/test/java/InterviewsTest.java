@@ -9,6 +9,7 @@ public final class InterviewsTest {
     falseOnes();
     bestNotice();
     bestIsTried();
+    waitsToNine();
     Check.end();
   }
 
@@ -112,26 +113,45 @@ public final class InterviewsTest {
 
   private static void bestIsTried() {
     String town = "person 60 at 0;person 70;person 30 at 1;person 50;person 40 at 2;tie 0 1 3;tie 1 2 4;tie 2 3 1;tie 3 4 5;tie 4 0 2;";
-    TwoRumours x = Check.with(town, "say;say bars 0;");
-    int looked = 0;
-    for (int seed = 1; seed < 60; seed++) {
-      x.fresh();
+    for (int seed = 1; seed < 100; seed++) {
+      TwoRumours x = Check.with(town, "say;say bars 0;");
       x.seed(seed * 31337);
       x.begin(0, 0);
       x.begin(3, 1);
       x.go(2);
       x.keep(0);
-      int place = x.best(0, 60, 6, 0);
-      int wait = x.best(0, 60, 6, 1);
-      int most = x.best(0, 60, 6, 2);
+      int u = seed % 2 == 0 ? 3 : 14;
+      int place = x.best(0, 60, u, 0);
+      int wait = x.best(0, 60, u, 1);
+      int most = x.best(0, 60, u, 2);
       Check.due("the tick stays", x.count(4), 2);
-      int[] found = bestByHand(x, 0, 60, 6);
+      int[] found = bestByHand(x, 0, 60, u);
       Check.due("place", place, found[0]);
       Check.due("wait", wait, found[1]);
       Check.due("most", most, found[2]);
-      looked += place >= 0 && wait > 0 ? 1 : 0;
     }
-    Check.due("some wait", looked > 0 ? 1 : 0, 1);
+  }
+
+  /** One sits at a place, of two others one tells in vain: two draws a tick, the notice has the next one. */
+  private static void waitsToNine() {
+    int waits = 0;
+    for (int seed = 1; seed < 400; seed++) {
+      TwoRumours x = Check.with("person 0 at 2;person 0;person 0;tie 1 2 1;", "say;say;");
+      x.begin(1, 1);
+      x.seed(seed * 7919);
+      int[] of = new int[21];
+      java.util.Arrays.fill(of, 100);
+      int[] draws = Check.draws(seed * 7919, of);
+      int due = Check.NONE;
+      for (int wait = 9; wait >= 0; wait--) {
+        due = draws[2 * wait] < 5 ? wait : due;
+      }
+      Check.due("wait", x.best(0, 5, 30, 1), due);
+      Check.due("place", x.best(0, 5, 30, 0), due == Check.NONE ? Check.NONE : 2);
+      Check.due("less than u", x.best(0, 5, 4, 1), due > 3 ? Check.NONE : due);
+      waits |= due < 0 ? 0 : 1 << due;
+    }
+    Check.due("each wait from 0 to 9 was best once", waits, 1023);
   }
 
   /** Tries all notices on the object itself, from image 0. */

@@ -174,6 +174,13 @@ public final class TextsTest {
   private static void faultsOfTowns() {
     townFault("persons 5;", 1, 0);
     townFault("Person 5;", 1, 0);
+    townFault("berson 5;", 1, 0);
+    townFault("persom 5;", 1, 0);
+    townFault("person 5 bt 1;", 1, 9);
+    townFault("person 5{", 1, 8);
+    townFault("person 5`", 1, 8);
+    townFault("person /", 1, 7);
+    townFault("person :", 1, 7);
     townFault("5;", 1, 0);
     townFault(";", 1, 0);
     townFault("  ,", 1, 2);
@@ -221,6 +228,7 @@ public final class TextsTest {
 
   private static void faultsOfSayings() {
     sayingsFault("says;", 1, 0);
+    sayingsFault("bay;", 1, 0);
     sayingsFault("person 1;", 1, 0);
     sayingsFault("say", 1, 3);
     sayingsFault("say 1;", 1, 4);

@@ -289,10 +289,10 @@ public final class TicksTest {
   private static void ninesOfOne() {
     String town = "person 100;person 100;person 100;person 100;person 100;"
         + "tie 0 1 1;tie 0 2 1;tie 0 3 1;tie 1 4 1;tie 2 4 1;tie 3 4 1;";
-    TwoRumours x = Check.with(town, "say;");
+    TwoRumours x = null;
     boolean found = false;
     for (int seed = 0; seed < 5000 && !found; seed++) {
-      x.fresh();
+      x = Check.with(town, "say;");
       x.seed(seed);
       x.begin(0, 0);
       x.go(6);
