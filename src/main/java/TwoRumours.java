@@ -12,7 +12,7 @@ public final class TwoRumours {
   private static final int BY_NOTICE = 24, BEGINNINGS = 40, TELLS = 1, TIRED = 2;
   private static final int MOST_KNOWN = 20, MOST_TICKS = 500, CURVE_TICKS = 200, LAST_TOLD_TICK = 9999;
   private static final int NOTICE_WAITS = 10, NOTICE_TICKS = 100, HUNDRED = 100;
-  private static final int NET_PERSONS = 10, NET_SETS = 1024, NET_STEPS = 12, MOST_SPOKEN = 3, THOUSAND = 1000;
+  private static final int NET_PERSONS = 10, NET_SETS = 1024, NET_PARTS = 512, NET_STEPS = 12, MOST_SPOKEN = 3, THOUSAND = 1000;
   private static final long MILLION = 1000000L, BILLION = 1000000000L, SEEDS = 2147483648L;
   private static final int MARKETS = 12, ROAD_DAYS = 30, LAST_DAY = 999, MOST_PACE = 20, DAY_BASE = 1000;
   private static final int NO_WAY = 1000000, IMAGES = 2;
@@ -1218,10 +1218,11 @@ public final class TwoRumours {
   /** The first persons, reckoned exactly over all sets of those told. */
   private static final class Net {
     private final Town people;
-    private final int[] stays = new int[NET_SETS * NET_PERSONS];
+    /** Of a thousand: that one stays untold by another alone. */
+    private final int[] stays = new int[NET_PERSONS * NET_PERSONS];
     private final long[] odds = new long[NET_SETS];
-    private final int[] partSet = new int[NET_SETS];
-    private final long[] partOdds = new long[NET_SETS];
+    private final int[] partSet = new int[NET_PARTS];
+    private final long[] partOdds = new long[NET_PARTS];
     private int parts;
     /** Whether what stays is reckoned for the town as it is. */
     boolean ready;
@@ -1238,24 +1239,23 @@ public final class TwoRumours {
       if (ready) {
         return;
       }
-      int size = size();
-      for (int set = 0; set < 1 << size; set++) {
-        for (int p = 0; p < size; p++) {
-          stays[set * NET_PERSONS + p] = stayOf(set, p, size);
+      for (int p = 0; p < size(); p++) {
+        for (int q = 0; q < size(); q++) {
+          stays[p * NET_PERSONS + q] = THOUSAND - people.strengthOf(p, q) * people.heed[p] / 10;
         }
       }
       ready = true;
     }
 
-    /** Of a thousand: that one stays untold in a step in which a set is told. */
-    private int stayOf(int set, int p, int size) {
+    /** Of a thousand: that one is told in a step in which a set is told. */
+    private int tellOf(int set, int p) {
       int stay = THOUSAND;
-      for (int q = 0; q < size; q++) {
+      for (int q = 0; q < NET_PERSONS; q++) {
         if ((set >> q & 1) != 0) {
-          stay = stay * (THOUSAND - people.strengthOf(p, q) * people.heed[p] / 10) / THOUSAND;
+          stay = stay * stays[p * NET_PERSONS + q] / THOUSAND;
         }
       }
-      return stay;
+      return THOUSAND - stay;
     }
 
     /** The odds of all sets so many steps behind one set. */
@@ -1274,15 +1274,15 @@ public final class TwoRumours {
       }
     }
 
+    /** One at least is told where odds are parted, so there are at most half as many parts as sets. */
     private void part(int set) {
       partSet[0] = set;
       partOdds[0] = odds[set];
       parts = 1;
       odds[set] = 0;
       for (int p = 0; p < size(); p++) {
-        int tell = THOUSAND - stays[set * NET_PERSONS + p];
-        if ((set >> p & 1) == 0 && tell != 0) {
-          partBy(p, tell);
+        if ((set >> p & 1) == 0) {
+          partBy(p, tellOf(set, p));
         }
       }
       for (int k = 0; k < parts; k++) {
@@ -1291,8 +1291,11 @@ public final class TwoRumours {
     }
 
     private void partBy(int p, int tell) {
+      if (tell == 0) {
+        return;
+      }
       int before = parts;
-      for (int k = 0; k < before && parts < NET_SETS; k++) {
+      for (int k = 0; k < before && parts < NET_PARTS; k++) {
         long told = partOdds[k] * tell / THOUSAND;
         if (told != 0) {
           partOdds[k] -= told;

@@ -1,6 +1,6 @@
 import java.lang.management.ManagementFactory;
 
-/** All calls of one run live in one room: a call makes nothing new, an object is small. */
+/** All calls of one run live in one room: a call makes nothing new, 512 new objects fit into it. */
 public final class RoomTest {
   public static void main(String[] args) {
     com.sun.management.ThreadMXBean bean = (com.sun.management.ThreadMXBean) ManagementFactory.getThreadMXBean();
@@ -9,7 +9,7 @@ public final class RoomTest {
     long start = bean.getThreadAllocatedBytes(id);
     TwoRumours x = new TwoRumours();
     long made = bean.getThreadAllocatedBytes(id);
-    Check.due("an object of at most 200000 bytes", made - start <= 200000 ? 1 : 0, 1);
+    Check.due("an object of at most 70000 bytes: " + (made - start), made - start <= 70000 ? 1 : 0, 1);
     StringBuilder town = new StringBuilder();
     for (int p = 0; p < 12; p++) {
       town.append("person 50 at ").append(p % 4).append(';');
