@@ -71,6 +71,61 @@ final class Check {
     throw new IllegalStateException("no seed fits");
   }
 
+  /** The least seed from 0 on whose draws lie each from a least to a most. */
+  static int seedWithin(int[] of, int[] least, int[] most) {
+    for (int seed = 0; seed < 100000000; seed++) {
+      int[] got = draws(seed, of);
+      boolean fits = true;
+      for (int i = 0; i < of.length && fits; i++) {
+        fits = got[i] >= least[i] && got[i] <= most[i];
+      }
+      if (fits) {
+        return seed;
+      }
+    }
+    throw new IllegalStateException("no seed fits");
+  }
+
+  /** What the seed is behind so many draws. */
+  static long seedBehind(long seed, int draws) {
+    long now = seed;
+    for (int k = 0; k < draws; k++) {
+      now = (now * 1103515245L + 12345L) & 0x7fffffffL;
+    }
+    return now;
+  }
+
+  static int seedOf(TwoRumours x) {
+    int seed = x.seed(0);
+    x.seed(seed);
+    return seed;
+  }
+
+  /** A text read as a town by a new object: the fault's number and place, 0 and NONE without one. */
+  static void townFault(String text, int number, int place) {
+    TwoRumours x = new TwoRumours();
+    int got = town(x, text);
+    due("town '" + text + "'", number == 0 ? Math.min(got, 0) : got, number == 0 ? 0 : -10 - number);
+    due("fault of town '" + text + "'", x.fault(), place);
+    due("the text is empty behind '" + text + "'", x.count(3), 0);
+  }
+
+  static void sayingsFault(String text, int number, int place) {
+    TwoRumours x = new TwoRumours();
+    int got = sayings(x, text);
+    due("sayings '" + text + "'", number == 0 ? Math.min(got, 0) : got, number == 0 ? 0 : -10 - number);
+    due("fault of sayings '" + text + "'", x.fault(), place);
+    due("the text is empty behind '" + text + "'", x.count(3), 0);
+  }
+
+  static void same(String what, String got, String want) {
+    asked++;
+    if (!got.equals(want)) {
+      wrong++;
+      System.out.println(what + ":\n  " + got + "\n  due is\n  " + want);
+    }
+  }
+
   static void end() {
     System.out.println(asked + " answers looked at, " + wrong + " wrong");
     if (wrong != 0) {
