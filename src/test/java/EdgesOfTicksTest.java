@@ -31,6 +31,7 @@ public final class EdgesOfTicksTest {
     heedZeroAndHundred();
     heedJustBelow();
     moreHeedAtMostHundred();
+    rulesAtFirst();
     moreHeedForWhatIsHeld();
     moreHeedThoughTired();
     toldByWhateverCame();
@@ -436,6 +437,24 @@ public final class EdgesOfTicksTest {
     Check.due("100 and 100, draw 0", heedsMore(100, 100, 0), 1);
     Check.due("100 and 100, draw 99", heedsMore(100, 100, 99), 1);
     Check.due("at first 20: 30 and 20, draw 49", heedsMore(30, 20, 49), 1);
+  }
+
+  // "(1 .. 20; 3 at first)", "(0 .. 100; 20)", without a call of rule
+  private static void rulesAtFirst() {
+    for (int draw = 19; draw <= 20; draw++) {
+      TwoRumours x = Check.with(DEAF, "say asks0;say answers0;");
+      x.begin(1, 0);
+      x.begin(0, 1);
+      x.seed(Check.seedFor(new int[] {1, 100}, new int[] {0, draw}));
+      Check.due("0 and 20 at first, draw " + draw, x.go(1), draw < 20 ? 1 : 0);
+    }
+    TwoRumours y = Check.with(DEAF, "say;");
+    y.begin(0, 0);
+    y.begin(1, 0);
+    y.go(2);
+    Check.due("twice 'I know'", y.holds(0, 0, 0), 1);
+    y.go(1);
+    Check.due("three times", y.holds(0, 0, 0), 2);
   }
 
   // "if it answers a question that a SAYING asks that B HOLDS"

@@ -63,7 +63,26 @@ public final class RefusalsTest {
     add("began(0, 0, 0)", UNKNOWN, x -> x.began(0, 0, 0));
     add("goBack(0)", NOT, x -> x.goBack(0));
     hold(x -> { });
+    objectsAreApart();
     Check.end();
+  }
+
+  /** One object's calls are nothing to another: both lead the same life, one of them among strangers. */
+  private static void objectsAreApart() {
+    TwoRumours alone = new TwoRumours();
+    lively(alone);
+    String due = readWhole(alone);
+    TwoRumours x = new TwoRumours();
+    lively(x);
+    TwoRumours other = new TwoRumours();
+    lively(other);
+    other.go(77);
+    other.rule(0, 1);
+    other.keep(1);
+    other.forget();
+    other.silence();
+    other.town();
+    Check.same("an object beside another", readWhole(x), due);
   }
 
   private static void add(String call, int due, ToIntFunction<TwoRumours> made) {
