@@ -19,6 +19,7 @@ public final class EdgesOfNetTest {
     reachRefusals();
     manyOfNobodyAndAll();
     manyIsCut();
+    oneOfABillionShort();
     manyRefusals();
     beganOfASumOfZero();
     beganOfJustTheSet();
@@ -226,6 +227,18 @@ public final class EdgesOfNetTest {
     // each is told by one of a thousand: 1 of 1000 both; 1.001999 and on behind two steps
     Check.due("one step", x.many(1, 1), 1002);
     Check.due("two steps: 1003.998", x.many(1, 2), 1003);
+  }
+
+  // one more of a billion at first, or in the sum, would come to the next number
+  private static void oneOfABillionShort() {
+    TwoRumours x = Check.with("person8;person66;person90;tie0 1 8;tie0 2 4;", "");
+    // 52 and 36 of a thousand, two steps: 101296000 and 70703999 are told beside the one
+    Check.due("1171999999 of a billion", x.many(1, 2), 1171);
+    Check.due("101296000", x.reach(0, 1, 2), 101296);
+    Check.due("70703999", x.reach(0, 2, 2), 70703);
+    TwoRumours y = Check.with("person63;person58;person86;tie0 1 9;tie0 2 9;", "");
+    // 52 and 77 of a thousand, eight steps: 473238999
+    Check.due("473238999 of a billion", y.reach(0, 2, 8), 473238);
   }
 
   // "many ... UNKNOWN, OUTSIDE"; UNKNOWN: "bits of such"
